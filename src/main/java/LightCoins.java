@@ -498,7 +498,7 @@ public final class LightCoins {
         return w <= tunes.of(LIMIT) ? WHOLE : WHOLE - w;
     }
 
-    /** What the worth of a coin is scaled by: a tenth more for each clip that it may still have. */
+    /** What the worth of a coin is scaled by, so that it is whole: ten for each clip that it may still have. */
     private static long worthScale(int w) {
         long scale = 1;
         for (int i = w; i < LIGHTEST; i++) {
@@ -648,7 +648,8 @@ public final class LightCoins {
         static final int NO_FAULT = -1;
 
         private static final int END = 0, WRONG = 1, NUMBER = 2, SEMICOLON = 3;
-        private static final int TALE = 4, SOME = 6, LIGHT = 7, HEAVY = 8;
+        // Ways and pays stand in the order of the town's own numbers for them.
+        private static final int TALE = 4, LOOK = 5, SOME = 6, LIGHT = 7, HEAVY = 8;
 
         private final int[] bytes = new int[MOST_BYTES];
         int length;
@@ -683,7 +684,7 @@ public final class LightCoins {
         }
 
         private boolean readItem(Town into, int p) {
-            if (token < TALE || token > SOME) {
+            if (token != TALE && token != LOOK && token != SOME) {
                 return false;
             }
             into.way[p] = token - TALE;
@@ -751,7 +752,7 @@ public final class LightCoins {
                 return TALE;
             }
             if (wordIs("look")) {
-                return TALE + Town.LOOK;
+                return LOOK;
             }
             if (wordIs("some")) {
                 return SOME;

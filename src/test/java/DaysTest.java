@@ -68,6 +68,7 @@ public final class DaysTest {
         x.tune(1, 0);
         Check.due("14 all rest, 30 takers", x.rests(30), Integer.MAX_VALUE);
         Check.due("14 all rest, 1 taker", x.rests(1), 3);
+        Check.due("16 all alone go to all", x.tip(30), 30);
         // 10 8 8 8, three takers, a cost of 1: looks of 1, 2, 3 are 9, 8, 23/3, all tales are 8.
         x.purse(0, 4, 0);
         x.purse(0, 0, 1);
@@ -91,6 +92,18 @@ public final class DaysTest {
         Check.due("14 none or all", x.rests(4), 17);
         Check.row("15", new long[] {x.goes(4, 0), x.goes(4, 1), x.goes(4, 2), x.goes(4, 3), x.goes(4, 4)}, 0, 0, 0, 4, 4);
         Check.due("16 tip at 3", x.tip(4), 3);
+        // One taker of 10 or 9: looking at 9 tenths gains a tenth more, at 11 a tenth less.
+        x = Check.townOf("tale light 0;");
+        x.purse(0, 0, 1);
+        x.purse(0, 1, 1);
+        x.tune(1, 9);
+        Check.row("15 a tenth more", new long[] {x.goes(1, 0), x.goes(1, 1), x.rests(1)}, 1, 1, 2);
+        x.tune(1, 11);
+        Check.row("15 a tenth less", new long[] {x.goes(1, 0), x.goes(1, 1), x.rests(1)}, 0, 0, 1);
+        x.purse(0, 5, 3);
+        x.purse(0, 0, 0);
+        x.purse(0, 1, 0);
+        x.purse(0, 9, 1);
         x.tune(1, 0);
         Check.due("16 tip at 0", x.tip(4), 0);
         x.tune(1, 99);

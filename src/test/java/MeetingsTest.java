@@ -53,8 +53,18 @@ public final class MeetingsTest {
         Check.due("10 light, limit of all", paidFirst("look light 0;", 9), 7);
         Check.due("10 no coin is heavy enough", paidFirst("look light 0;", 0), LightCoins.NONE);
         Check.due("10 no coin is heavy enough", paidFirst("look heavy 0;", 0), LightCoins.NONE);
+        Check.row("10 the only one", new long[] {onlyOne("tale light 0;", 0), onlyOne("tale heavy 0;", 0), onlyOne("tale light 0;", 9),
+            onlyOne("tale heavy 0;", 9), onlyOne("look heavy 0;", 2), onlyOne("look light 0;", 2), onlyOne("look heavy 0;", 3)},
+            0, 0, 9, 9, 2, 2, LightCoins.NONE);
         Check.due("10 some 0", paidFirst("some 0 light 0;", 0), 7);
         Check.due("10 some 10", paidFirst("some 10 light 0;", 1), 1);
+    }
+
+    private static int onlyOne(String item, int w) {
+        LightCoins x = Check.townOf(item.repeat(2));
+        x.purse(0, w, 1);
+        x.purse(1, w, 1);
+        return x.meet();
     }
 
     private static int paidFirst(String item, int limit) {
@@ -80,6 +90,15 @@ public final class MeetingsTest {
         looked("look light 0;", 1);
         looked("some 0 light 0;", 0);
         looked("some 10 light 0;", 1);
+        LightCoins x = Check.townOf("some 5 light 0;".repeat(3));
+        long lot = 1;
+        for (int i = 0; i < 60; i++) {
+            x.meet();
+            for (int times = 0; times < 3; times++) {
+                lot = (lot * 1103515245L + 12345L) % 4294967296L;
+            }
+            Check.due("12 looked by lot", x.met(2), lot / 65536 % 10 < 5 ? 1 : 0);
+        }
     }
 
     private static void looked(String item, int want) {

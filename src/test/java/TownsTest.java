@@ -112,6 +112,9 @@ public final class TownsTest {
         fault("tales light 1;", 0);
         fault("tal light 1;", 0);
         fault("talE light 1;", 0);
+        fault("gale light 1;", 0);
+        fault("talez light 1;", 0);
+        fault("atale light 1;", 0);
         fault("talelight 1;", 0);
         fault("tale Light 1;", 5);
         fault("tale! light 1;", 4);
@@ -131,6 +134,7 @@ public final class TownsTest {
         fault("tale light 0;".repeat(8) + " ?", 105);
         fault(" ".repeat(299) + "x", 299);
         fault(" ".repeat(296) + "tale", 300);
+        fault(" ".repeat(288) + "tale light 1", 300);
     }
 
     /** A town stands already: the fault leaves it, its purses and the text as they are. */
@@ -150,6 +154,7 @@ public final class TownsTest {
     private static void townReadAnew() {
         LightCoins x = Check.townOf("tale light 0;tale light 0;");
         x.purse(0, 0, 9);
+        x.purse(1, 0, 9);
         x.year(7);
         x.tune(0, 6);
         x.law(1, 1, 4);
@@ -189,7 +194,7 @@ public final class TownsTest {
         Check.due("5 what = -1", x.person(0, -1), LightCoins.BAD);
         Check.due("5 what = 5", x.person(0, 5), LightCoins.BAD);
         // X of an earlier "some" in the same place is not left behind.
-        Check.read(x, "some 9 light 0;");
+        Check.due("5 X of 9", Check.read(x, "some 9 light 0;") * x.person(0, 1), 9);
         Check.read(x, "tale light 0;");
         Check.read(x, "look light 0;");
         Check.due("5 X of look", x.person(0, 1), 0);

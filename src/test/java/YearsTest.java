@@ -55,6 +55,9 @@ public final class YearsTest {
     private static void mean() {
         LightCoins x = Check.townOf("tale light 0;tale light 0;");
         Check.row("20 none", new long[] {x.mean(0), x.mean(1)}, LightCoins.NO, LightCoins.NO);
+        x.purse(0, 7, 1);
+        Check.row("20 of one", new long[] {x.mean(0), x.mean(1)}, 3, 1);
+        x.purse(0, 7, 0);
         x.purse(0, 0, 2);
         x.purse(1, 6, 4);
         Check.row("20 36 by 6", new long[] {x.mean(0), x.mean(1)}, 6, 1);
@@ -106,9 +109,13 @@ public final class YearsTest {
         Check.row("22 a cut", new long[] {x.changer(0, 50, 0), x.changer(0, 50, 1)}, 10, 50);
         x.tune(0, 5);
         Check.row("22 all pass", new long[] {x.changer(0, 99, 0), x.changer(0, 99, 1)}, 10, 70);
+        Check.due("22 the other's", x.changer(1, 0, 1), 0);
         Check.row("22 purses stay", new long[] {x.coins(0, 0), x.coins(0, 5)}, 3, 4);
         Check.row("22 BAD", new long[] {x.changer(-1, 0, 0), x.changer(2, 0, 0), x.changer(0, -1, 0), x.changer(0, 100, 0), x.changer(0, 0, -1), x.changer(0, 0, 2)},
             -1, -1, -1, -1, -1, -1);
+        Check.read(x, "tale light 0;".repeat(8));
+        x.purse(7, 9, 99);
+        Check.row("22 the last person", new long[] {x.changer(7, 0, 0), x.changer(7, 0, 1)}, 10, 99);
     }
 
     private static void law() {
@@ -135,6 +142,9 @@ public final class YearsTest {
         Check.row("24 both", new long[] {x.cheapest(0, 80, 0), x.cheapest(0, 80, 1)}, 18, 322);
         Check.row("24 below 0 is 0 at most", new long[] {x.cheapest(0, 0, 0), x.cheapest(0, 0, 1)}, 13, 66);
         Check.due("24 too high a fine", x.cheapest(999, 999, 1), LightCoins.NONE);
+        setLaw(x, 0, 1, 1, 1);
+        Check.row("24 law 0", new long[] {x.cheapest(4, 21, 0), x.cheapest(4, 21, 1)}, 1, 1);
+        setLaw(x, 0, 0, 0, 0);
         x.tune(1, 3);
         x.tune(2, 50);
         Check.row("24 tunes tell where from", new long[] {x.cheapest(1, 50, 1), x.cheapest(3, 50, 1)}, 2, 0);
