@@ -235,6 +235,11 @@ public final class TownEdgesTest {
                 fault("tale light " + word, 11);
             }
         }
+        for (char c = 'a'; c <= 'z'; c++) {
+            fault("tale" + c + " light 0;", 0);
+            fault(c + "tale light 0;", 0);
+            fault("tale light" + c + " 0;", 5);
+        }
         fault("Tale light 0;", 0);
         fault("taLe light 0;", 0);
         fault("tale LIGHT 0;", 5);
@@ -334,9 +339,20 @@ public final class TownEdgesTest {
         Check.row("4 no latest meeting", new long[] {x.met(0), x.met(1), x.met(2), x.met(3), x.count(4)}, -9, -9, -9, -9, 0);
         Check.row("4 nothing else", new long[] {x.count(2), x.lot(1), x.trace(), x.tune(0, 0), x.tune(1, 0), x.law(0, 1, 0), x.law(8, 2, 0)},
             8, lot, trace, 3, 7, 3, 9);
-        // People who come back with a later town find no coins of the earlier one.
-        Check.due("4 three again", Check.read(x, ITEM.repeat(3)), 3);
-        Check.row("4 empty purses", new long[] {x.count(1), x.person(0, 4), x.person(1, 4), x.person(2, 4)}, 0, 0, 0, 0);
+        // People who come back with a later town find no coins of the earlier ones.
+        LightCoins full = Check.townOf(ITEM.repeat(8));
+        for (int p = 0; p < 8; p++) {
+            for (int w = 0; w <= 9; w++) {
+                full.purse(p, w, 99);
+            }
+        }
+        Check.due("4 one", Check.read(full, ITEM), 1);
+        Check.due("4 eight again", Check.read(full, ITEM.repeat(8)), 8);
+        for (int p = 0; p < 8; p++) {
+            for (int w = 0; w <= 9; w++) {
+                Check.due("4 purse " + p + ", weight " + w + " is empty", full.coins(p, w), 0);
+            }
+        }
     }
 
     private static void persons() {
