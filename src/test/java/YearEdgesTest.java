@@ -281,6 +281,9 @@ public final class YearEdgesTest {
         }
         LightCoins empty = Check.townOf("tale light 0;");
         Check.row("22 an empty purse", new long[] {empty.changer(0, 0, 0), empty.changer(0, 0, 1), empty.changer(0, 99, 0), empty.changer(0, 99, 1)}, 10, 0, 10, 0);
+        LightCoins eight = Check.townOf("tale light 0;".repeat(8));
+        eight.purse(7, 9, 99);
+        Check.row("22 person 7", new long[] {eight.changer(7, 0, 0), eight.changer(7, 99, 1), eight.changer(6, 0, 1), eight.changer(8, 0, 1)}, 10, 99, 0, -1);
         LightCoins full = fullPurses();
         Check.row("22 a full purse", new long[] {full.changer(0, 0, 0), full.changer(0, 0, 1)}, 10, 99 * (30 + 28));
     }
